@@ -224,6 +224,10 @@ public final class PromiseTest {
         x = fresh("5 readArrivals of a long text");
         due("15 arrivals", read(x, "0>0,1>0,2>0,3>0,0>1,1>1,2>1,3>1,0>2,1>2,2>2,3>2,0>3,1>3,2>3"), 15);
         due("the last", x.packet(2, 3, 0), 14);
+        x = fresh("5 readArrivals of a text behind a longer one");
+        read(x, "1>1*3,2>2*2");
+        due("not as often as the longer one said", read(x, "1>1"), 1);
+        due("and nothing of its end", x.input(2, 0), 2);
         x = fresh("5 readArrivals in a later tick");
         x.pass(7);
         read(x, "3>2*2");
@@ -379,6 +383,12 @@ public final class PromiseTest {
         due("the ticks 1 to 3 are not", x.lane(2, 3), 104);
         x.pass(1);
         due("the tick 4 is", x.lane(2, 3), 103);
+        x.set(1, 1);
+        for (int i = 0; i < 3; i++) {
+            x.forge(2);
+            x.pass(1);
+            due("each tick is divisible by 1", x.lane(2, 3), 103);
+        }
         x = fresh("6 watch ahead of the sending, behind the coming");
         x.setLane(0, 0, 1);
         x.setLane(0, 1, 1);
@@ -515,16 +525,26 @@ public final class PromiseTest {
         x = fresh("12 undo of all that a state has");
         busy(x);
         String before = describe(x);
-        type(x, "3>3*8");
-        x.pass(50);
         x.setLane(1, 2, 5);
         x.set(0, 0);
         x.set(1, 7);
+        type(x, "3>3*5");
+        x.readArrivals();
         for (int left = 3; left >= 0; left--) {
-            x.undo();
+            due("undo", x.undo(), left);
         }
         Check.holds("all as before", before.equals(describe(x)));
         due("the text stays", x.count(12), 5);
+        x.forge(2);
+        x.forge(2);
+        x.pass(3);
+        x.lose(2);
+        due("spilled then", x.lane(2, 10), 2);
+        due("lost then", x.lane(2, 11), 1);
+        for (int left = 3; left >= 0; left--) {
+            due("undo", x.undo(), left);
+        }
+        Check.holds("all as before", before.equals(describe(x)));
     }
 
     private static void busy(ChairCredits x) {
@@ -667,10 +687,12 @@ public final class PromiseTest {
         busy(x);
         String before = describe(x);
         x.keep();
-        type(x, "0>0");
-        x.readArrivals();
-        x.pass(20);
+        forge(x, 2, 3);
+        x.pass(3);
+        x.lose(2);
+        x.pass(17);
         x.setLane(3, 0, 7);
+        type(x, "0>0");
         due("restore", x.restore(), 5);
         Check.holds("all as it was kept", before.equals(describe(x)));
         due("the text stays", x.count(12), 3);
@@ -768,6 +790,10 @@ public final class PromiseTest {
         x.pass(1);
         due("the first is taken", x.seated(0, 0), 4);
         due("place 7", x.seated(0, 7), NONE);
+        x.undo();
+        for (int place = 0; place < 8; place++) {
+            due("undone, place " + place, x.seated(0, place), numbers[place]);
+        }
     }
 
     private static void onTheWay() {
