@@ -112,7 +112,7 @@ public final class ChairCredits {
         if (!isPort(input) || !isPort(output)) {
             return UNKNOWN;
         }
-        if (box.queues[input].isFull()) {
+        if (!box.hasRoom(input, 1)) {
             return FULL;
         }
         remember();
@@ -430,13 +430,13 @@ public final class ChairCredits {
             int input = text[at] - '0';
             int output = text[at + 2] - '0';
             int times = tellsTimes(at) ? text[at + 4] - '0' : 1;
-            for (int i = 0; i < times; i++) {
-                if (trial.queues[input].isFull()) {
-                    return FULL;
-                }
-                trial.admit(input, output);
-                admitted++;
+            if (!trial.hasRoom(input, times)) {
+                return FULL;
             }
+            for (int i = 0; i < times; i++) {
+                trial.admit(input, output);
+            }
+            admitted += times;
         }
         return admitted;
     }
@@ -472,7 +472,11 @@ public final class ChairCredits {
             }
         }
 
-        /** Needs a queue that is not full; answers the packet's number. */
+        private boolean hasRoom(int input, int packets) {
+            return isPort(input) && queues[input].size + packets <= QUEUE_ROOM;
+        }
+
+        /** Needs room for the packet; answers its number. */
         private int admit(int input, int output) {
             int number = arrived;
             queues[input].append(number, output, tick);
@@ -802,12 +806,8 @@ public final class ChairCredits {
             System.arraycopy(other.arrivalTicks, 0, arrivalTicks, 0, QUEUE_ROOM);
         }
 
-        private boolean isFull() {
-            return size >= QUEUE_ROOM;
-        }
-
         private void append(int number, int output, int tick) {
-            if (isFull()) {
+            if (size >= QUEUE_ROOM) {
                 return;
             }
             numbers[size] = number;

@@ -42,8 +42,11 @@ public final class PlainBoxTest {
 
     private void due(String call, int got, int want) {
         calls++;
-        Check.title("run " + run + ", call " + calls);
-        Check.due(call, got, want);
+        // A step may make some calls more than are promised.
+        if (calls <= CALLS) {
+            Check.title("run " + run + ", call " + calls);
+            Check.due(call, got, want);
+        }
     }
 
     private void step() {

@@ -1,13 +1,5 @@
 /** Each promise of the document by itself: ordinary inputs, its edges, wrong inputs. */
-public final class PromiseTest {
-    private static final int UNKNOWN = ChairCredits.UNKNOWN;
-    private static final int BAD_VALUE = ChairCredits.BAD_VALUE;
-    private static final int FULL = ChairCredits.FULL;
-    private static final int NOT_POSSIBLE = ChairCredits.NOT_POSSIBLE;
-    private static final int NONE = ChairCredits.NONE;
-
-    private static final int[] NO_PORT = {-1, 4, Integer.MIN_VALUE, Integer.MAX_VALUE};
-
+public final class PromiseTest extends Calls {
     private PromiseTest() {
     }
 
@@ -47,39 +39,6 @@ public final class PromiseTest {
         count();
         tickLimit();
         Check.end();
-    }
-
-    private static ChairCredits fresh(String title) {
-        Check.title(title);
-        return new ChairCredits();
-    }
-
-    private static void due(String call, long got, long want) {
-        Check.due(call, got, want);
-    }
-
-    private static void arrive(ChairCredits x, int input, int output, int times) {
-        for (int i = 0; i < times; i++) {
-            x.arrive(input, output);
-        }
-    }
-
-    private static void forge(ChairCredits x, int output, int times) {
-        for (int i = 0; i < times; i++) {
-            x.forge(output);
-        }
-    }
-
-    private static void type(ChairCredits x, String text) {
-        x.clearText();
-        for (char c : text.toCharArray()) {
-            x.type(c);
-        }
-    }
-
-    private static int read(ChairCredits x, String text) {
-        type(x, text);
-        return x.readArrivals();
     }
 
     private static void newObject() {
@@ -524,7 +483,7 @@ public final class PromiseTest {
         due("numbers go back, too", x.arrive(1, 0), 2);
         x = fresh("12 undo of all that a state has");
         busy(x);
-        String before = describe(x);
+        String before = state(x);
         x.setLane(1, 2, 5);
         x.set(0, 0);
         x.set(1, 7);
@@ -533,7 +492,7 @@ public final class PromiseTest {
         for (int left = 3; left >= 0; left--) {
             due("undo", x.undo(), left);
         }
-        Check.holds("all as before", before.equals(describe(x)));
+        Check.holds("all as before", before.equals(state(x)));
         due("the text stays", x.count(12), 5);
         x.forge(2);
         x.forge(2);
@@ -544,42 +503,7 @@ public final class PromiseTest {
         for (int left = 3; left >= 0; left--) {
             due("undo", x.undo(), left);
         }
-        Check.holds("all as before", before.equals(describe(x)));
-    }
-
-    private static void busy(ChairCredits x) {
-        x.set(0, 1);
-        x.setLane(1, 1, 1);
-        x.setLane(1, 2, 6);
-        x.setLane(2, 0, 1);
-        read(x, "0>1*6,1>2*5,2>1*3,2>3*3,3>2*2");
-        x.forge(2);
-        x.pass(5);
-        x.lose(1);
-        x.arrive(3, 0);
-    }
-
-    /** All that is told of a box but for its text and its history. */
-    private static String describe(ChairCredits x) {
-        StringBuilder all = new StringBuilder();
-        for (int port = 0; port < 4; port++) {
-            for (int what = 0; what <= 13; what++) {
-                all.append(x.lane(port, what)).append(' ');
-            }
-            for (int what = 0; what <= 3; what++) {
-                all.append(x.input(port, what)).append(' ');
-            }
-            for (int place = 0; place < 8; place++) {
-                all.append(x.seated(port, place)).append(' ').append(x.onTheWay(port, place)).append(' ');
-                for (int what = 0; what <= 2; what++) {
-                    all.append(x.packet(port, place, what)).append(' ');
-                }
-            }
-        }
-        for (int what = 0; what <= 10; what++) {
-            all.append(x.count(what)).append(' ');
-        }
-        return all.toString();
+        Check.holds("all as before", before.equals(state(x)));
     }
 
     private static void whatIsRecorded() {
@@ -685,7 +609,7 @@ public final class PromiseTest {
         due("none", x.restore(), NONE);
         due("nothing is recorded", x.count(11), 0);
         busy(x);
-        String before = describe(x);
+        String before = state(x);
         x.keep();
         forge(x, 2, 3);
         x.pass(3);
@@ -694,12 +618,12 @@ public final class PromiseTest {
         x.setLane(3, 0, 7);
         type(x, "0>0");
         due("restore", x.restore(), 5);
-        Check.holds("all as it was kept", before.equals(describe(x)));
+        Check.holds("all as it was kept", before.equals(state(x)));
         due("the text stays", x.count(12), 3);
         due("the history stays, and has one more", x.count(11), 4);
         x.pass(1);
         due("the snapshot stays", x.restore(), 5);
-        Check.holds("all as it was kept", before.equals(describe(x)));
+        Check.holds("all as it was kept", before.equals(state(x)));
         x.undo();
         due("undo", x.count(0), 6);
         x.undo();
