@@ -1,3 +1,5 @@
+import java.util.Map;
+import java.util.TreeMap;
 import java.util.function.Consumer;
 import java.util.function.ToIntFunction;
 
@@ -124,37 +126,47 @@ class Calls {
         type(x, "0>3,3>0");
     }
 
-    /** All that is told of a state; some 250 calls at most. */
-    static String state(ChairCredits x) {
-        StringBuilder all = new StringBuilder();
+    /** All that is told of a state, by the calls that tell it; some 250 calls at most. */
+    static Map<String, Integer> told(ChairCredits x) {
+        Map<String, Integer> all = new TreeMap<>();
         for (int port = 0; port < 4; port++) {
-            for (int what = 0; what <= 13; what++) {
-                all.append(x.lane(port, what)).append(' ');
-            }
-            for (int place = 0; place < x.lane(port, 4); place++) {
-                all.append(x.seated(port, place)).append(' ');
-            }
-            for (int rank = 0; rank < x.lane(port, 5); rank++) {
-                all.append(x.onTheWay(port, rank)).append(' ');
-            }
-            queue(x, port, all);
+            tellLane(x, port, all);
+            tellInput(x, port, all);
         }
         for (int what = 0; what <= 10; what++) {
-            all.append(x.count(what)).append(' ');
+            all.put("count(" + what + ")", x.count(what));
         }
-        return all.toString();
+        return all;
     }
 
-    private static void queue(ChairCredits x, int input, StringBuilder all) {
+    private static void tellLane(ChairCredits x, int output, Map<String, Integer> all) {
+        for (int what = 0; what <= 13; what++) {
+            all.put("lane(" + output + ", " + what + ")", x.lane(output, what));
+        }
+        int seated = x.lane(output, 4);
+        for (int place = 0; place < seated; place++) {
+            all.put("seated(" + output + ", " + place + ")", x.seated(output, place));
+        }
+        int onTheWay = x.lane(output, 5);
+        for (int rank = 0; rank < onTheWay; rank++) {
+            all.put("onTheWay(" + output + ", " + rank + ")", x.onTheWay(output, rank));
+        }
+    }
+
+    private static void tellInput(ChairCredits x, int input, Map<String, Integer> all) {
         for (int what = 0; what <= 3; what++) {
-            all.append(x.input(input, what)).append(' ');
+            all.put("input(" + input + ", " + what + ")", x.input(input, what));
         }
         int size = x.input(input, 0);
         for (int place = 0; place < size; place++) {
             for (int what = 0; what <= 2; what++) {
-                all.append(x.packet(input, place, what)).append(' ');
+                all.put("packet(" + input + ", " + place + ", " + what + ")", x.packet(input, place, what));
             }
         }
+    }
+
+    static String state(ChairCredits x) {
+        return told(x).toString();
     }
 
     /** The call answers so in a crowded box, and changes nothing. */

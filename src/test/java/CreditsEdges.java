@@ -175,6 +175,14 @@ final class CreditsEdges extends Calls {
         due("not stuck", x.lane(0, 13), 0);
         x.lose(0);
         due("on the way no more", x.lane(0, 13), 1);
+        x = new ChairCredits();
+        indebt(x, 0);
+        x.arrive(0, 0);
+        for (int onTheWay = 3; onTheWay > 0; onTheWay--) {
+            due("on the way, to a lane with -2 credits", x.lane(0, 13), 0);
+            x.lose(0);
+        }
+        due("none is on the way to it", x.lane(0, 13), 1);
     }
 
     static void notStuckWithAWatch() {

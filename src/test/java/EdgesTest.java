@@ -14,6 +14,7 @@ public final class EdgesTest {
         Check.run(ErrorsEdges.class);
         Check.run(ToldEdges.class);
         Check.run(ForecastEdges.class);
+        Check.run(ActsEdges.class);
         Document.allIsQuoted();
         Check.end();
     }

@@ -52,6 +52,17 @@ final class ForecastEdges extends Calls {
         due("a watch that leaves one", x.next(2), 1);
     }
 
+    static void nextTellsOneThatWouldBeSpilled() {
+        ChairCredits x = edge(NEXT, "Tells which packet would be sent");
+        lay(x, 2, 1, 9, 6);
+        x.forge(2);
+        read(x, "1>2*2");
+        x.pass(1);
+        due("no chair is free", x.next(2), 1);
+        x.pass(1);
+        due("it was spilled", x.lane(2, 10), 1);
+    }
+
     static void nextInTheLastTick() {
         ChairCredits x = edge(NEXT, "in the next tick.");
         passToTheEnd(x);

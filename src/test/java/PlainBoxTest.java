@@ -18,6 +18,7 @@ public final class PlainBoxTest {
     public static void main(String[] args) {
         for (int run = 0; run < RUNS; run++) {
             PlainBoxTest test = new PlainBoxTest(run);
+            test.begin();
             while (test.calls < CALLS) {
                 test.step();
             }
@@ -49,6 +50,33 @@ public final class PlainBoxTest {
         }
     }
 
+    /** Some runs begin where others hardly come. */
+    private void begin() {
+        if (run % 10 == 8) {
+            late();
+        }
+        for (int o = 0; o < 4 && run % 10 == 6; o++) {
+            lay(o, 8, 1, 6);
+        }
+        for (int o = 0; o < 4 && run % 10 == 4; o++) {
+            lay(o, 1, 1 + draw(2), 1 + draw(3));
+        }
+    }
+
+    /** Near to the last tick, or at it. */
+    private void late() {
+        for (int i = 0; i < 199; i++) {
+            pass(50);
+        }
+        pass(number(30, 49));
+    }
+
+    private void lay(int o, int chairs, int period, int delay) {
+        setLane(o, 0, chairs);
+        setLane(o, 1, period);
+        setLane(o, 2, delay);
+    }
+
     private void step() {
         // Some runs have few acts of one kind, so that others show what they do alone.
         int kind = draw(run % 3 == 0 ? 24 : 34);
@@ -58,6 +86,7 @@ public final class PlainBoxTest {
             case 3, 4, 5, 6, 7, 8, 26, 27, 28 -> arrive();
             case 9, 10, 11, 29, 30, 31 -> pass();
             case 12 -> lose();
+            case 18 -> delayOrLoss();
             case 13 -> forge();
             case 14 -> repair();
             case 15 -> text();
@@ -70,7 +99,10 @@ public final class PlainBoxTest {
     private void setLane() {
         int o = number(0, 3);
         int what = number(0, 2);
-        int value = number(1, what == 0 ? 8 : what == 1 ? 9 : 6);
+        setLane(o, what, number(1, what == 0 ? 8 : what == 1 ? 9 : 6));
+    }
+
+    private void setLane(int o, int what, int value) {
         due("setLane(" + o + ", " + what + ", " + value + ")", box.setLane(o, what, value), plain.setLane(o, what, value));
     }
 
@@ -81,8 +113,10 @@ public final class PlainBoxTest {
     }
 
     private void arrive() {
-        int i = number(0, 3);
-        int o = run % 2 == 0 ? number(0, 3) : number(0, 1);
+        arrive(number(0, 3), run % 2 == 0 ? number(0, 3) : number(0, 1));
+    }
+
+    private void arrive(int i, int o) {
         due("arrive(" + i + ", " + o + ")", box.arrive(i, o), plain.arrive(i, o));
     }
 
@@ -91,12 +125,50 @@ public final class PlainBoxTest {
         if (run % 10 == 9) {
             ticks = number(48, 50);
         }
+        pass(ticks);
+    }
+
+    private void pass(int ticks) {
         due("pass(" + ticks + ")", box.pass(ticks), plain.pass(ticks));
     }
 
     private void lose() {
-        int o = number(0, 3);
+        lose(number(0, 3));
+    }
+
+    private void lose(int o) {
         due("lose(" + o + ")", box.lose(o), plain.lose(o));
+    }
+
+    private void delayOrLoss() {
+        int o = number(0, 3);
+        if (run % 10 == 6) {
+            changingDelays(o);
+        } else if (run % 10 == 4) {
+            runningDry(o);
+        }
+    }
+
+    /** So that credits come in another order than they went. */
+    private void changingDelays(int o) {
+        for (int i = 0; i < 3; i++) {
+            setLane(o, 2, number(1, 6));
+            arrive(i, o);
+            pass(1);
+            due("onTheWay(" + o + ", " + i + ")", box.onTheWay(o, i), plain.onTheWay(o, i));
+        }
+    }
+
+    /** So that lanes are stuck, at 0 credits and below. */
+    private void runningDry(int o) {
+        setLane(o, 0, number(1, 3));
+        for (int i = 0; i < 4; i++) {
+            arrive(i, o);
+            pass(1);
+            lose(o);
+        }
+        setLane(o, 0, number(1, 3));
+        due("lane(" + o + ", 13)", box.lane(o, 13), plain.lane(o, 13));
     }
 
     private void forge() {
@@ -118,10 +190,15 @@ public final class PlainBoxTest {
         }
         int parts = draw(6) == 0 ? 16 : 1 + draw(3);
         for (int k = 0; k < parts; k++) {
-            String part = draw(4) + ">" + draw(4) + (draw(2) == 0 ? "*" + (1 + draw(4)) : "");
+            String part = draw(4) + ">" + draw(4) + (draw(2) == 0 ? "*" + times() : "");
             type(k + 1 < parts ? part + "," : part);
         }
         due("readArrivals()", box.readArrivals(), plain.readArrivals());
+    }
+
+    /** Mostly few; 0 is not allowed. */
+    private int times() {
+        return draw(4) == 0 ? draw(10) : 1 + draw(3);
     }
 
     private void type(String part) {

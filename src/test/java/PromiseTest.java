@@ -385,6 +385,8 @@ public final class PromiseTest extends Calls {
         due("lost", x.lane(2, 11), 3);
         x.pass(6);
         due("none comes", x.lane(2, 3), 100);
+        due("they can be repaired", x.repair(2), 103);
+        due("and are lost ones yet", x.lane(2, 11), 3);
     }
 
     private static void forge() {
@@ -800,6 +802,11 @@ public final class PromiseTest extends Calls {
         due("most", x.packet(0, Integer.MAX_VALUE, 2), NONE);
         x.pass(1);
         due("it stands first then", x.packet(0, 0, 0), 2);
+        x.arrive(0, 1);
+        x.pass(1);
+        due("one more does", x.packet(0, 0, 0), 3);
+        due("with its output", x.packet(0, 0, 1), 1);
+        due("and its tick", x.packet(0, 0, 2), 4);
     }
 
     private static void next() {
@@ -809,12 +816,13 @@ public final class PromiseTest extends Calls {
         }
         due("none", x.next(0), NONE);
         x.set(0, 1);
-        read(x, "3>2,3>1,0>2");
+        read(x, "0>2,0>1,3>2");
         due("the output 1 is ahead", x.next(1), 1);
-        due("so that 3 sends none to 2", x.next(2), 2);
+        due("so that the input 0 has none for 2", x.next(2), 2);
         due("none to 3", x.next(3), NONE);
-        due("nothing has happened", x.count(0) + x.count(3), 0);
-        x.set(0, 0);
+        due("nothing has happened", x.count(0) + x.count(3) + x.lane(2, 7), 0);
+        x = fresh("20 next of heads");
+        read(x, "3>2,3>1,0>2");
         due("a head blocks", x.next(1), NONE);
         x.setLane(2, 0, 1);
         x.setLane(2, 1, 1);
@@ -829,6 +837,12 @@ public final class PromiseTest extends Calls {
         due("a watch in that tick", x.next(2), 0);
         x.set(1, 3);
         due("a watch in another", x.next(2), NONE);
+        x = fresh("20 next of one that would be spilled");
+        x.setLane(1, 0, 1);
+        x.forge(1);
+        read(x, "0>1*2");
+        x.pass(1);
+        due("spilled ones are sent ones", x.next(1), 1);
     }
 
     private static void leavesIn() {
@@ -900,13 +914,14 @@ public final class PromiseTest extends Calls {
         read(x, "0>0*2,0>1*2,2>3");
         due("1 tick, mode 0", x.wouldSend(1, 0), 2);
         due("3 ticks, mode 0", x.wouldSend(3, 0), 2);
-        due("3 ticks, mode 1", x.wouldSend(3, 1), 4);
         due("50 ticks, mode 0", x.wouldSend(50, 0), 5);
+        due("3 ticks, mode 1", x.wouldSend(3, 1), 4);
         due("the mode stays", x.count(8), 0);
         due("nothing has happened", x.count(0) + x.count(3), 0);
         x.set(0, 1);
-        due("3 ticks, mode 0", x.wouldSend(3, 0), 2);
         due("3 ticks, mode 1", x.wouldSend(3, 1), 4);
+        due("3 ticks, mode 0", x.wouldSend(3, 0), 2);
+        due("the mode stays", x.count(8), 1);
     }
 
     private static void count() {

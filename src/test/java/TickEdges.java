@@ -221,6 +221,29 @@ final class TickEdges extends Calls {
         due("left", x.count(2), 2);
     }
 
+    static void oneToAnOutputHoweverManyCredits() {
+        ChairCredits x = edge(TICK, "a packet is sent to it");
+        for (int output = 0; output < 4; output++) {
+            x.setLane(output, 0, 8);
+            forge(x, output, 8);
+        }
+        x.set(0, 1);
+        read(x, "0>1,1>1,2>1,3>1");
+        for (int sent = 1; sent <= 4; sent++) {
+            due("one in each tick", x.pass(1), 1);
+            due("sent so far", x.lane(1, 8), sent);
+        }
+    }
+
+    static void anInputSendsOnceInTheMode0() {
+        ChairCredits x = edge(TICK, "each input that has not sent in this tick offers");
+        read(x, "2>0,2>1,2>2");
+        for (int output = 0; output < 3; output++) {
+            due("its head", x.next(output), output);
+            due("one in each tick", x.pass(1), 1);
+        }
+    }
+
     static void anInputSendsOnce() {
         ChairCredits x = edge(TICK, "each input that has not sent in this tick offers a packet for this output");
         x.set(0, 1);

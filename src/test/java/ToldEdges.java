@@ -105,10 +105,17 @@ final class ToldEdges extends Calls {
         due("taken", x.lane(3, 9), 3);
         due("spilled", x.lane(3, 10), 0);
         due("lost", x.lane(3, 11), 1);
+        due("the missing one is repaired", x.repair(3), 101);
+        due("it stays lost", x.lane(3, 11), 1);
         x.setLane(3, 0, 2);
         x.forge(3);
         x.repair(3);
         due("a repair loses none", x.lane(3, 11), 1);
+        x.forge(3);
+        x.set(1, 1);
+        x.pass(1);
+        due("nor does a watch", x.lane(3, 11), 1);
+        due("which has repaired it", x.lane(3, 6), 100);
         x.setLane(3, 0, 1);
         due("nor do fewer chairs", x.lane(3, 11), 1);
     }
